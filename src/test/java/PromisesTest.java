@@ -577,6 +577,22 @@ public final class PromisesTest {
         Check.is(0, c.labelAt(0, 2));
         Check.is(0, c.label(0, 5, 4));
         Check.is(1, c.labelAt(0, 2));
+        twoAtTheirFirstSpots(4, -4);
+        twoAtTheirFirstSpots(-4, 4);
+        twoAtTheirFirstSpots(0, 8);
+        twoAtTheirFirstSpots(0, -8);
+    }
+
+    /** Two parts of 4 by 4, whose labels of 4 by 8 touch each other when both are at spot 0. */
+    private static void twoAtTheirFirstSpots(long x, long y) {
+        ChannelRooms c = new ChannelRooms();
+        c.part(4, 4);
+        c.part(4, 4);
+        c.put(1, x, y, 0);
+        Check.is(0, c.label(0, 4, 8));
+        Check.is(0, c.label(1, 4, 8));
+        Check.is(0, c.labelAt(0, 2));
+        Check.is(0, c.labelAt(1, 2));
     }
 
     /** When a label of another part has no spot left, there is no way at all, also not for a part far off. */

@@ -34,8 +34,8 @@ public final class ArraysTest {
         ChannelRooms c = Scene.masterWithOne(3);
         Check.is(1, c.copy(0, 0, 0, 2));
         c.mirror(1);
-        Check.is(3, c.array(0, 2, 2, 100, 100));
-        for (int part = 2; part < 5; part++) {
+        Check.is(17, c.array(0, 3, 6, 100, 100));
+        for (int part = 2; part < 19; part++) {
             Check.is(3, c.at(part, 2));
             Scene.isMember(c, part, part, 0);
             Scene.isByHand(c, part, false);
@@ -43,10 +43,10 @@ public final class ArraysTest {
         // they are copies of the master, and not mirrored
         Check.is(NONE, c.copy(2, 0, 0, 0));
         c.put(0, 11, 20, 0);
-        Check.is(4, c.carry(0));
+        Check.is(18, c.carry(0));
         Scene.isAt(c, 2, 111, 20, 0);
-        Scene.isAt(c, 3, 11, 120, 0);
-        Scene.isAt(c, 4, 111, 120, 0);
+        Scene.isAt(c, 4, 11, 120, 0);
+        Scene.isAt(c, 18, 211, 520, 0);
     }
 
     private static void moves() {

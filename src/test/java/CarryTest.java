@@ -35,6 +35,7 @@ public final class CarryTest {
         Check.is(4, c.copy(0, 200, 0, 0));
         Scene.moreParts(c, 6, 58);
         c.into(0, 6, 19);
+        c.into(1, 7, 0);
         Check.is(1, c.carry(0));
         Scene.isMember(c, 59, 3, 19);
 
@@ -150,20 +151,32 @@ public final class CarryTest {
         Scene.isAt(c, 2, 5, 6, 3);
     }
 
+    /** Parts 2 and 3 are by hand where they are due; then one lies elsewhere by one, or the master's is turned alone. */
     private static void toldWhenAnother() {
-        long[][] others = {{111, 0, 0}, {110, 1, 0}, {110, 0, 1}, {110, 0, 2}, {109, -1, 3}};
-        for (long[] other : others) {
-            ChannelRooms c = Scene.masterWithTwo();
-            c.copy(0, 100, 0, 0);
-            c.hand(2, 110, 0);
-            c.hand(3, 100, 5);
-            Check.is(0, c.carry(0));
-            Scene.toldAre(c);
-            c.put(2, other[0], other[1], (int) other[2]);
+        long[][] places = {{111, 0}, {109, 0}, {110, 1}, {110, -1}};
+        for (long[] place : places) {
+            ChannelRooms c = twoByHand();
+            c.hand(2, place[0], place[1]);
             Check.is(0, c.carry(0));
             Scene.toldAre(c, 2);
         }
+        for (int turn = 0; turn < 4; turn++) {
+            ChannelRooms c = twoByHand();
+            c.put(1, 0, 5, turn);
+            Check.is(0, c.carry(0));
+            Scene.toldAre(c, turn == 1 ? new int[] {} : new int[] {3});
+        }
         toldOfTheMirrored();
+    }
+
+    private static ChannelRooms twoByHand() {
+        ChannelRooms c = Scene.masterWithTwo();
+        c.copy(0, 100, 0, 0);
+        Check.is(false, c.hand(2, 110, 0));
+        Check.is(false, c.hand(3, 100, 5));
+        Check.is(0, c.carry(0));
+        Scene.toldAre(c);
+        return c;
     }
 
     /** What it would be for the copy as it is now counts: here it is there as long as the copy is mirrored. */

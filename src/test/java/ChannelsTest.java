@@ -55,6 +55,9 @@ public final class ChannelsTest {
             int part = c.part(1, 1);
             Check.is(true, c.into(4, part, role));
         }
+        Scene.moreParts(c, 25, 59);
+        Check.is(5, c.channel());
+        Check.is(6, c.copy(5, 0, 0, 0));
     }
 
     private static void noneWhenThereAre20() {
@@ -247,6 +250,13 @@ public final class ChannelsTest {
             Scene.isMember(c, 20 + role, 1, role);
             Scene.isMember(c, 40 + role, 2, role);
         }
+        ChannelRooms gaps = Scene.masterWithTwo();
+        gaps.part(1, 1);
+        gaps.into(0, 2, 19);
+        gaps.copy(0, 0, 0, 0);
+        Scene.isMember(gaps, 3, 1, 1);
+        Scene.isMember(gaps, 4, 1, 3);
+        Scene.isMember(gaps, 5, 1, 19);
     }
 
     private static void copyOfNothing() {

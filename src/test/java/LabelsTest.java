@@ -125,7 +125,7 @@ public final class LabelsTest {
         ChannelRooms c = new ChannelRooms();
         c.part(4, 4);
         c.part(1, 6);
-        c.put(1, 6, 1, 1);
+        c.put(1, 1, 1, 1);
         Check.is(0, c.label(0, 4, 4));
         Check.is(1, c.labelAt(0, 2));
         c.put(1, 9, -5, 0);
@@ -145,6 +145,23 @@ public final class LabelsTest {
         c.put(59, 7, 3, 0);
         Check.is(0, c.label(0, 4, 4));
         Check.is(2, c.labelAt(0, 2));
+        clearOfTheFirstPart();
+    }
+
+    private static void clearOfTheFirstPart() {
+        ChannelRooms c = new ChannelRooms();
+        Scene.block(c, 5, 1);
+        c.part(4, 4);
+        Check.is(0, c.label(1, 4, 4));
+        Scene.labelIsAt(c, 1, 0, 4, 1);
+        c.put(0, 1, 5, 0);
+        Check.is(0, c.label(1, 4, 4));
+        Scene.labelIsAt(c, 1, 4, 0, 0);
+        // and clear of it for the label of a part before it
+        c.part(4, 4);
+        c.put(1, 500, 500, 0);
+        Check.is(0, c.label(2, 4, 4));
+        Scene.labelIsAt(c, 2, 4, 0, 0);
     }
 
     private static void clearOfLabels() {
@@ -190,6 +207,9 @@ public final class LabelsTest {
         c.put(block, 1, 5, 0);
         Check.is(0, c.label(2, 4, 4));
         Scene.spotsAre(c, 0, 1, 0);
+        // the label that is given is none of the others
+        Check.is(0, c.label(1, 4, 4));
+        Scene.spotsAre(c, 0, 0, 0);
     }
 
     /** With two changes the label of part 0 would have a lower spot; one change is enough. */
@@ -300,8 +320,11 @@ public final class LabelsTest {
         covered.put(1, 0, -1, 0);
         Check.is(0, covered.label(0, 1, 1));
         Check.is(2, covered.labelAt(0, 2));
+        oneGapForTwo();
+        oneGapLeftForTwo();
+    }
 
-        // two parts in a row with one gap free for both
+    private static void oneGapForTwo() {
         ChannelRooms c = corridor(2);
         Scene.block(c, -3, 1);
         Scene.block(c, 13, 1);
@@ -309,10 +332,25 @@ public final class LabelsTest {
         Check.is(1, c.label(1, 4, 4));
         Check.noLabel(c, 1);
         Scene.spotsAre(c, 0);
-        // of half the width both have place there; but each spot is at one end of the gap
+        // of half the width both have place there, each at its end of the gap
         Check.is(0, c.label(0, 2, 4));
         Check.is(0, c.label(1, 2, 4));
         Scene.spotsAre(c, 0, 2);
+    }
+
+    /** Both had their labels before the outer gaps were closed. */
+    private static void oneGapLeftForTwo() {
+        ChannelRooms c = corridor(2);
+        Check.is(0, c.label(0, 4, 4));
+        Check.is(0, c.label(1, 4, 4));
+        Scene.spotsAre(c, 0, 0);
+        Scene.block(c, -3, 1);
+        Scene.block(c, 13, 1);
+        Check.is(1, c.label(1, 4, 4));
+        Check.noLabel(c, 1);
+        Scene.spotsAre(c, 0);
+        Check.is(1, c.label(1, 4, 4));
+        Check.is(0, c.label(0, 4, 4));
     }
 
     /** A part far off gets no label either as long as the label of another one has no spot left. */
@@ -387,9 +425,8 @@ public final class LabelsTest {
             blocks[part] = Scene.block(five, 100 * part + 5, 1);
             Check.is(0, five.label(part, 4, 4));
         }
-        for (int part = 0; part < 5; part++) {
-            five.put(blocks[part], 100 * part + 1, 5, 0);
-        }
+        five.put(blocks[1], 0, 5000, 0);
+        five.put(blocks[2], 201, 5, 0);
         Scene.spotsAre(five, 1, 1, 1, 1, 1);
         Scene.changesNothing(five, () -> Check.is(1, five.label(5, 4, 4)));
         Scene.partAt(five, 12, 12, 396, -4);

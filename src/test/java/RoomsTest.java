@@ -97,6 +97,8 @@ public final class RoomsTest {
             c.room(5, 5, 6, 6);
             Check.is(true, c.member(room, 0));
             Check.is(true, c.member(room, 59));
+        }
+        for (int room = 0; room < 10; room++) {
             Scene.outsideAre(c, room, 0, 59);
         }
     }

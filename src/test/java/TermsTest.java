@@ -311,8 +311,10 @@ public final class TermsTest {
         Scene.isByHand(c, 2, true);
         c.mirror(1);
         Scene.isByHand(c, 2, true);
-        c.hand(2, 110, 0);
+        // also one that is where it is due, and so not told
+        c.hand(2, 86, 0);
         c.carry(0);
+        Scene.toldAre(c);
         Scene.isByHand(c, 2, true);
         c.put(2, 6, 6, 1);
         Scene.isByHand(c, 2, true);

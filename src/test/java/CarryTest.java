@@ -26,7 +26,7 @@ public final class CarryTest {
         s.says("NONE, when there is none such.", CarryTest::noneTold);
     }
 
-    /** There is room for one new part only: the first copy of this master gets it, though others are before and behind it. */
+    /** There is room for one new part only: the first copy of this master gets it, not one before or behind it. */
     private static void copiesInOrder() {
         ChannelRooms c = Scene.masterWithTwo();
         c.channel();

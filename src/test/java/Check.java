@@ -84,7 +84,7 @@ final class Check {
         }
     }
 
-    /** A test that belongs to words of the document: an exception in it is a wrong answer, and so is a test that asks nothing. */
+    /** A test that belongs to words of the document: an exception counts as wrong, and so does a test that asks nothing. */
     static void about(String words, Runnable test) {
         about = words;
         int before = checks;

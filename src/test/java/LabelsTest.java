@@ -98,7 +98,9 @@ public final class LabelsTest {
 
     private static void clearOfParts() {
         // a label of 4 by 4 at spot 0 is from 4, 0 to 8, 4: these only touch it
-        long[][] touching = {{8, 1, 2, 2}, {5, 4, 2, 2}, {5, -2, 2, 2}, {8, 4, 2, 2}, {8, -2, 2, 2}, {8, -500, 1, 1000}};
+        long[][] touching = {
+            {8, 1, 2, 2}, {5, 4, 2, 2}, {5, -2, 2, 2}, {8, 4, 2, 2}, {8, -2, 2, 2}, {8, -500, 1, 1000},
+        };
         for (long[] other : touching) {
             Check.is(0, spotBeside(other));
         }

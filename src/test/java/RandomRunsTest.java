@@ -13,7 +13,12 @@ public final class RandomRunsTest {
     private final Random random;
     /** How far places spread: small, so that labels and parts crowd each other. */
     private final int spread;
+    /** All sizes and places are multiples of it, so that borders touch often when it is not 1. */
+    private final int grid;
     private final int oftenLabels;
+    /** So many parts and channels are made at once, so that some runs come to the limits early. */
+    private final int partsFirst;
+    private final int channelsFirst;
     private final ChannelRooms tested = new ChannelRooms();
     private final PlainRooms plain = new PlainRooms();
     private static final TreeMap<String, Integer> SEEN = new TreeMap<>();
@@ -21,15 +26,22 @@ public final class RandomRunsTest {
     private RandomRunsTest(long seed) {
         random = new Random(seed);
         spread = 12 + random.nextInt(60);
+        grid = seed % 3 == 0 ? 4 : 1;
         oftenLabels = random.nextInt(3);
+        partsFirst = seed % 4 == 0 ? 30 + random.nextInt(31) : 0;
+        channelsFirst = seed % 5 == 0 ? random.nextInt(21) : 0;
     }
 
     public static void main(String[] args) {
         for (long seed = 1; seed <= 150; seed++) {
             new RandomRunsTest(seed).run(seed);
         }
-        for (String kind : new String[] {"label 0", "label 1", "carry", "told 1", "outside 1", "array", "mirror 1", "copy"}) {
-            Check.isTrue("the runs never came to " + kind, SEEN.getOrDefault(kind, 0) > 50);
+        String[] due = {
+            "label 0", "label 1", "carry", "told 1", "outside 1", "array", "mirror 1", "copy", "carry with 60 parts",
+            "copy with 60 parts", "array with 60 parts", "label with 60 parts",
+        };
+        for (String kind : due) {
+            Check.isTrue("the runs seldom came to " + kind, SEEN.getOrDefault(kind, 0) > 20);
         }
         Check.finish();
     }
@@ -40,6 +52,7 @@ public final class RandomRunsTest {
             long[] a = random.nextInt(60) == 0 ? wild(name) : tame(name);
             Object want = plain.answer(name, a);
             Object got = answer(name, a);
+            note(name + (plain.partCount() == 60 ? " with 60 parts" : ""), want);
             note(name, want);
             Check.isTrue("seed " + seed + ", call " + call + ": " + name + Arrays.toString(a) + " answered " + got
                     + ", due is " + want, want.equals(got));
@@ -53,8 +66,11 @@ public final class RandomRunsTest {
     }
 
     private String nextName(int call) {
-        if (plain.partCount() < 4 + call / 16 && random.nextInt(6) == 0) {
+        if (call < partsFirst || plain.partCount() < 4 + call / 16 && random.nextInt(6) == 0) {
             return "part";
+        }
+        if (call < partsFirst + channelsFirst) {
+            return "channel";
         }
         int kind = random.nextInt(100);
         if (kind < 10 * oftenLabels) {
@@ -92,7 +108,7 @@ public final class RandomRunsTest {
 
     private long[] tame(String name) {
         switch (name) {
-            case "part": return row(1 + random.nextInt(9), 1 + random.nextInt(9));
+            case "part": return row(size(), size());
             case "put": return put();
             case "into": return row(random.nextInt(4), anyPart(), random.nextInt(20));
             case "copy": return row(random.nextInt(4), place(), place(), random.nextInt(4));
@@ -102,7 +118,7 @@ public final class RandomRunsTest {
             case "room": return roomCorners();
             case "member": return row(random.nextInt(4), anyPart());
             case "outside": return row(random.nextInt(3), random.nextInt(4) - random.nextInt(2));
-            case "label": return row(anyPart() % 8, 1 + random.nextInt(9), 1 + random.nextInt(9));
+            case "label": return row(anyPart() % 8, size(), size());
             case "labelAt": return row(anyPart() % 8, random.nextInt(3));
             case "array": return row(random.nextInt(4), 1 + random.nextInt(3), 1 + random.nextInt(3), place(), place());
             case "mirror": return row(random.nextInt(10));
@@ -128,8 +144,12 @@ public final class RandomRunsTest {
         return random.nextInt(plain.partCount() + (random.nextInt(20) == 0 ? 2 : 0) + (plain.partCount() == 0 ? 1 : 0));
     }
 
+    private long size() {
+        return grid == 1 ? 1 + random.nextInt(9) : grid * (1 + random.nextInt(2));
+    }
+
     private long place() {
-        return random.nextInt(2 * spread + 1) - spread;
+        return (random.nextInt(2 * spread + 1) - spread) / grid * grid;
     }
 
     private long[] roomCorners() {

@@ -98,7 +98,8 @@ final class Scene {
     /** A room just as large holds the part, and none that is shorter by one at any side; it takes five rooms. */
     static void hasRectangle(ChannelRooms c, int part, long x, long y, long u, long v) {
         int[] rooms = {
-            c.room(x, y, u, v), c.room(x + 1, y, u, v), c.room(x, y + 1, u, v), c.room(x, y, u - 1, v), c.room(x, y, u, v - 1),
+            c.room(x, y, u, v),
+            c.room(x + 1, y, u, v), c.room(x, y + 1, u, v), c.room(x, y, u - 1, v), c.room(x, y, u, v - 1),
         };
         for (int i = 0; i < rooms.length; i++) {
             c.member(rooms[i], part);

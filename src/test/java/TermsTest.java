@@ -28,9 +28,10 @@ public final class TermsTest {
         s.says("A part is a member of one channel at most,", TermsTest::oneChannelAtMost);
         s.says("with a ROLE 0 .. 19,", TermsTest::everyRole);
         s.says("that no other member of that channel has.", TermsTest::rolesOfEachChannel);
-        s.says("A copy belongs to a MASTER; it has a MOVE dx, dy, a TURN, and is MIRRORED, or not.", TermsTest::eachCopyItsOwn);
-        s.says("What a member of the MASTER is FOR a copy: its RECTANGLE, when the copy is MIRRORED, turned over (x becomes -x)",
-                TermsTest::turnedOver);
+        s.says("A copy belongs to a MASTER; it has a MOVE dx, dy, a TURN, and is MIRRORED, or not.",
+                TermsTest::eachCopyItsOwn);
+        s.says("What a member of the MASTER is FOR a copy:", TermsTest::eachCopyItsOwn);
+        s.says("its RECTANGLE, when the copy is MIRRORED, turned over (x becomes -x)", TermsTest::turnedOver);
         s.says("and its TURN t becomes 4 - t, modulo 4;", TermsTest::turnOfTheTurnedOver);
         s.says("then turned to the left by as many quarters as the copy's TURN around 0, 0,", TermsTest::turnedToTheLeft);
         s.says("the member's TURN that much more, modulo 4;", TermsTest::turnsWrapAround);

@@ -2,12 +2,14 @@ import java.io.IOException;
 import java.nio.file.Files;
 import java.nio.file.Path;
 import java.nio.file.Paths;
+import java.util.ArrayList;
 import java.util.LinkedHashMap;
+import java.util.List;
 import java.util.Map;
 
 /**
  * The tests by sentence quote the document in its own words and leave none out: below 'Terms' and each promise every
- * word belongs to a test. It needs ../shared/DOC.md beside the project, and says so when it is not there.
+ * word belongs to a test; and FaceTest asks for the face that the document shows. It needs ../shared/DOC.md beside the project, and says so when it is not there.
  */
 public final class DocumentTest {
     private static final Path DOCUMENT = Paths.get("..", "shared", "DOC.md");
@@ -18,6 +20,7 @@ public final class DocumentTest {
             return;
         }
         Map<String, String> sections = sections();
+        faceIsTheDocuments(sections.get("The public face"));
         Map<String, boolean[]> tested = new LinkedHashMap<>();
         for (Map.Entry<String, String> section : sections.entrySet()) {
             tested.put(section.getKey(), new boolean[section.getValue().length()]);
@@ -37,6 +40,33 @@ public final class DocumentTest {
         Check.finish();
     }
 
+    /** The face as the document shows it at its beginning, and each method again at the head of its promise. */
+    private static void faceIsTheDocuments(String shown) throws IOException {
+        StringBuilder due = new StringBuilder("```java public final class ChannelRooms {");
+        due.append(" public static final int NONE = -1; public ChannelRooms();");
+        List<String> heads = new ArrayList<>();
+        heads.add("ChannelRooms()");
+        for (String method : FaceTest.METHODS) {
+            due.append(" public ").append(method).append(';');
+            heads.add(method);
+        }
+        due.append(" } ```");
+        Check.isTrue("the document shows " + shown, due.toString().equals(shown));
+        Check.isTrue("the promises' heads are " + heads(), heads.equals(heads()));
+    }
+
+    private static List<String> heads() throws IOException {
+        List<String> heads = new ArrayList<>();
+        boolean inPromise = false;
+        for (String line : Files.readAllLines(DOCUMENT)) {
+            inPromise = line.startsWith("## ") ? line.startsWith("## Promise") : inPromise;
+            if (inPromise && line.matches("`[^`]*`:.*")) {
+                heads.add(line.substring(1, line.indexOf('`', 1)));
+            }
+        }
+        return heads;
+    }
+
     private static Sentences allSentences() {
         Sentences all = new Sentences();
         TermsTest.sentences(all);
@@ -49,7 +79,7 @@ public final class DocumentTest {
         return all;
     }
 
-    /** Each section's words by its heading; without the head of the method, which FaceTest holds the class to. */
+    /** Each section's words by its heading; without the head of the method, which is no sentence. */
     private static Map<String, String> sections() throws IOException {
         Map<String, String> sections = new LinkedHashMap<>();
         String heading = "";
